@@ -78,7 +78,7 @@ public final class ModelTest {
 
     private static void oneCall(int run, int i, Random random, AuditDraws x, Model model, int wantedThings) {
         boolean filling = model.places.size() < wantedThings && i < 3 * wantedThings;
-        int method = filling && random.nextInt(3) > 0 ? 1 : random.nextInt(16);
+        int method = filling && random.nextInt(3) > 0 ? 1 : random.nextInt(17);
         int size = model.places.size();
         int t = pick(random, size);
         int place = pick(random, random.nextBoolean() ? 16 : 3);
@@ -123,11 +123,11 @@ public final class ModelTest {
             case 12 -> both(what + "first", () -> x.first(few, told), () -> model.first(few, told));
             case 13 -> both(what + "seen", () -> x.seen(few, told), () -> model.seen(few, told));
             case 14 -> both(what + "weight", () -> x.weight(t, grams), () -> model.weight(t, grams));
-            default -> {
+            case 15 -> {
                 int state = pick(random, 4);
                 both(what + "report", () -> x.report(state, k), () -> model.report(state, k));
-                both(what + "room", () -> x.room(place, k), () -> model.room(place, k));
             }
+            default -> both(what + "room", () -> x.room(place, k), () -> model.room(place, k));
         }
     }
 
