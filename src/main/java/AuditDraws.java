@@ -110,6 +110,7 @@ public final class AuditDraws {
         int checked = countChecked(stratum);
         int found = countListed(stratum, FOUND);
         if (checked == 0) {
+            // 0 / 1: what each part tells is its own number.
             return part;
         }
         int divisor = commonDivisor(found, checked);
