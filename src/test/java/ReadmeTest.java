@@ -73,7 +73,7 @@ public final class ReadmeTest {
                 body.append(noting(parts.group(1), parts.group(2), line));
             }
         }
-        List<String> answers = run(body.toString());
+        List<String> answers = run(String.join("\n", use), body.toString());
         Due.same("answers of README.md", shown.size(), answers::size);
         for (int i = 0; i < shown.size() && i < answers.size(); i++) {
             Due.compare("README.md: " + shown.get(i), due.get(i), answers.get(i));
@@ -89,8 +89,10 @@ public final class ReadmeTest {
             + "catch (RuntimeException e) { answers.add(\"throws \" + e.getClass().getSimpleName()); }\n";
     }
 
-    private static List<String> run(String body) throws Exception {
+    private static List<String> run(String use, String body) throws Exception {
+        // The first method is there to be compiled alone: the lines without what notes their answers.
         String source = "public final class " + CLASS_NAME + " {\n"
+            + "static void asShown() {\n" + use + "\n}\n"
             + "public static void run(java.util.List<String> answers) {\n" + body + "}\n}\n";
         List<String> answers = new ArrayList<>();
         Path folder = Files.createTempDirectory("readme");
